@@ -1036,7 +1036,9 @@ public final class PairVm {
                 case Step.LEAVE: case Step.LEAVE_WITH_AA: leave(frame, step); break;
                 case Step.A_OF_B: convert(frame, step); break;
                 case Step.RESULT: frame.set(step.result, whole, realResult); break;
-                case Step.A_IS_B: case Step.AA_IS_N: frame.set(step.result, step.number, 0.0); break;
+                case Step.A_IS_B: case Step.AA_IS_N:
+                    frame.set(step.result, step.number, 0.0);
+                    break;
                 case Step.JUMP: frame.unit = from + step.number; break;
                 case Step.AA_OF_C_D: combine(frame, step); break;
                 case Step.IF_A_B: case Step.IF_AA:
