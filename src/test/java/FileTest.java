@@ -19,6 +19,7 @@ public final class FileTest {
         anIllFileChangesNothing();
         aFileTakesThePlaceOfTheOneBefore();
         noBytesAfterALoad();
+        nothingIsLeftOfFilesBefore();
         CHECKS.end("FileTest");
     }
 
@@ -292,5 +293,59 @@ public final class FileTest {
         CHECKS.same("at 8", vm.place(), 8);
         Code.putAll(vm, smallFile());
         CHECKS.same("the head was taken", vm.load(), 1);
+    }
+
+    /** Many files one after another: each is answered as if it were the first one. */
+    private static void nothingIsLeftOfFilesBefore() {
+        Code[] files = {
+            Code.methods(1, 0).method(0, Code.types(2, 4, 2), 6, 14),
+            Code.methods(1, 0).method(0, Code.types(), 0, 14),
+            Code.methods(1, 0).method(0, Code.types(1), 2, 0, 144, Code.cd(1, 1), 14),
+            Code.methods(1, 0).method(0, Code.types(1), 2, 19, 5, 0, 14),
+            Code.methods(1, 0).method(0, Code.types(1), 2, 144, Code.cd(1, 0), 14),
+            Code.methods(1, 0).method(0, Code.types(1), 2, Code.aa(56, 1), 2, 14),
+            Code.methods(1, 0).method(0, Code.types(1), 2, Code.aa(40, 1), 14),
+            Code.methods(1, 0).method(0, Code.types(1), 2, Code.ab(113, 1, 1), 0, 1, 14),
+            Code.methods(1, 0).method(0, Code.types(1), 2, 200, 0, 0, 14),
+            Code.methods(1, 0).method(0, Code.types(1), 2, 0, 0, 0, 14),
+            Code.methods(4, 0).method(0, Code.types(), 0, 14).method(0, Code.types(), 0, 0)
+                .method(0, Code.types(), 0, 0).method(0, Code.types(), 0, 0),
+            Code.methods(1, 4).method(0, Code.types(), 1, 18, 103, 3, 14),
+            Code.methods(2, 0).method(0, Code.types(), 0, 14).method(1, Code.types(), 1, 14),
+        };
+        for (Code before : files) {
+            for (Code file : files) {
+                PairVm vm = before.machine();
+                before.sealInto(vm);
+                file.sealInto(vm);
+                sameAsNew(vm, file.machine());
+            }
+        }
+    }
+
+    private static void sameAsNew(PairVm vm, PairVm fresh) {
+        for (int m = 0; m < 5; m++) {
+            CHECKS.same("verify " + m, vm.verify(m), fresh.verify(m));
+            for (int unit = 0; unit < 5; unit++) {
+                CHECKS.same("type " + m + " " + unit, vm.type(m, unit, 0), fresh.type(m, unit, 0));
+                CHECKS.same("type " + m + " " + unit, vm.type(m, unit, 1), fresh.type(m, unit, 1));
+            }
+        }
+        CHECKS.same("called", called(vm), called(fresh));
+        CHECKS.same("run", vm.state() == 1 ? vm.run(3) : 0, fresh.state() == 1 ? fresh.run(3) : 0);
+        CHECKS.same("state", vm.state(), fresh.state());
+        CHECKS.same("calls", vm.calls(), fresh.calls());
+        CHECKS.same("at", vm.at(0), fresh.at(0));
+    }
+
+    private static int called(PairVm vm) {
+        try {
+            vm.call(0);
+            return 0;
+        } catch (IllegalArgumentException e) {
+            return 1;
+        } catch (IllegalStateException e) {
+            return 2;
+        }
     }
 }

@@ -20,6 +20,7 @@ public final class TypesTest {
         aWrongOneGoesOn();
         cannotBeComeTo();
         firstWrong();
+        eachMethodOfItsOwn();
         CHECKS.end("TypesTest");
     }
 
@@ -407,5 +408,15 @@ public final class TypesTest {
     private static void firstWrong() {
         PairVm vm = wide(Code.aa(40, 2), Code.ab(123, 0, 2), Code.ab(123, 0, 1), Code.aa(40, -2));
         CHECKS.same("the lowest unit, not the one first come to", vm.verify(0), 1);
+    }
+
+    private static void eachMethodOfItsOwn() {
+        PairVm vm = Code.methods(3, 0)
+            .method(0, Code.types(1, 1, 1), 4, 18, 14)
+            .method(0, Code.types(), 4, 14)
+            .method(0, Code.types(3), 4, 14).machine();
+        CHECKS.same("method 0", row(vm, 0, 1, 4).equals("1111"), true);
+        CHECKS.same("method 1", row(vm, 1, 0, 4).equals("0000"), true);
+        CHECKS.same("method 2", row(vm, 2, 0, 4).equals("0002"), true);
     }
 }
