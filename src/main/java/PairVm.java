@@ -131,7 +131,7 @@ public final class PairVm {
         if (machine.condition != RUNS) {
             throw new IllegalStateException("the machine doesn't run");
         }
-        int done = machine.advance(n);
+        int done = machine.advance(program, n);
         if (machine.trouble == DIVISION) {
             throw new ArithmeticException("a division by 0");
         }
@@ -188,7 +188,7 @@ public final class PairVm {
         if (!program.fit) {
             return UNFIT;
         }
-        machine.begin(program, method, arguments);
+        machine.begin(method, arguments);
         return NO_REFUSAL;
     }
 
@@ -957,7 +957,6 @@ public final class PairVm {
     /** Runs what was verified. */
     private static final class Machine {
         private final Frame[] frames = new Frame[MOST_CALLS];
-        private Program program = null;
         private int open = 0;
         private int condition = IDLE;
         private int trouble = NO_TROUBLE;
@@ -977,8 +976,7 @@ public final class PairVm {
             open = 0;
         }
 
-        void begin(Program verified, Method method, Arguments arguments) {
-            program = verified;
+        void begin(Method method, Arguments arguments) {
             Frame frame = frames[0];
             frame.enter(method);
             arguments.copyTo(frame, method);
@@ -1007,16 +1005,16 @@ public final class PairVm {
             return k >= 0 && k < frames.length ? frames[k] : null;
         }
 
-        /** Does up to so many instructions: how many were done. */
-        int advance(int most) {
+        /** Does up to so many instructions of the program that was called: how many were done. */
+        int advance(Program program, int most) {
             int done = 0;
             for (int i = 0; i < most && condition == RUNS; i++) {
                 Frame frame = frameAt(open - 1);
                 Step step = frame == null ? null : frame.nextStep();
-                if (step == null) {
+                if (frame == null || step == null) {
                     return done;
                 }
-                perform(frame, step);
+                perform(program, frame, step);
                 if (condition != STOPPED) {
                     done++;
                 }
@@ -1029,7 +1027,7 @@ public final class PairVm {
             trouble = why;
         }
 
-        private void perform(Frame frame, Step step) {
+        private void perform(Program program, Frame frame, Step step) {
             int from = frame.unit;
             frame.unit = from + step.length;
             switch (step.kind) {
@@ -1048,7 +1046,7 @@ public final class PairVm {
                     break;
                 case Step.GET: frame.set(step.result, program.fieldAt(step.number), 0.0); break;
                 case Step.PUT: program.setField(step.number, (int) frame.whole(step.first)); break;
-                case Step.CALL: enter(frame, step); break;
+                case Step.CALL: enter(program.methodAt(step.number), frame, step); break;
                 default: break;
             }
         }
@@ -1064,9 +1062,8 @@ public final class PairVm {
             }
         }
 
-        private void enter(Frame frame, Step step) {
+        private void enter(Method called, Frame frame, Step step) {
             Frame next = frameAt(open);
-            Method called = program.methodAt(step.number);
             if (next == null || called == null) {
                 stop(TOO_MANY_CALLS);
                 return;

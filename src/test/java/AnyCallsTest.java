@@ -12,7 +12,7 @@ public final class AnyCallsTest {
     private static long seed = 7L;
 
     public static void main(String[] args) {
-        for (int i = 0; i < 3000; i++) {
+        for (int i = 0; i < 10000; i++) {
             oneObject();
         }
         CHECKS.end("AnyCallsTest");
@@ -30,7 +30,7 @@ public final class AnyCallsTest {
     private static void oneObject() {
         PairVm vm = new PairVm();
         int[] file = file();
-        for (int i = 0; i < 120; i++) {
+        for (int i = 0; i < 35; i++) {
             oneCall(vm, file);
         }
     }
