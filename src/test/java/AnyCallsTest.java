@@ -10,6 +10,8 @@ public final class AnyCallsTest {
         Double.POSITIVE_INFINITY, Double.NEGATIVE_INFINITY, Double.MIN_VALUE, 1e18};
 
     private static long seed = 7L;
+    /** No fewer than the object has been asked; a round that puts no file takes twelve at most. */
+    private static int calls = 0;
 
     public static void main(String[] args) {
         for (int i = 0; i < 10000; i++) {
@@ -30,7 +32,9 @@ public final class AnyCallsTest {
     private static void oneObject() {
         PairVm vm = new PairVm();
         int[] file = file();
-        for (int i = 0; i < 35; i++) {
+        calls = 0;
+        for (int i = 0; i < 35 && calls + 12 + file.length <= 512; i++) {
+            calls += 12;
             oneCall(vm, file);
         }
     }
@@ -53,7 +57,11 @@ public final class AnyCallsTest {
         switch (lot(14)) {
             case 0: vm.put(n[0]); break;
             case 1: may("seal", vm::seal, IllegalArgumentException.class); break;
-            case 2: Code.putAll(vm, file); may("seal", vm::seal, IllegalArgumentException.class); break;
+            case 2:
+                calls += file.length;
+                Code.putAll(vm, file);
+                may("seal", vm::seal, IllegalArgumentException.class);
+                break;
             case 3: may("load", vm::load, IllegalArgumentException.class); break;
             case 4: may("verify", () -> vm.verify(n[0])); break;
             case 5: may("type", () -> vm.type(n[0], n[1], n[2])); break;
