@@ -42,22 +42,18 @@ public final class EveryUnitTest {
         Model.Made made = model.methods.get(0);
         int questions = made.formed ? 1 + made.units.length * made.registers : 2;
         PairVm vm = machine(model.toCode(), questions);
-        if (vm.verify(0) != made.verdict) {
-            CHECKS.same(what + ": verify", vm.verify(0), made.verdict);
-        }
+        CHECKS.same(what + ": verify", vm.verify(0), made.verdict);
         if (!made.formed) {
             CHECKS.same(what + ": no types", vm.type(0, 0, 0), PairVm.NONE);
             return;
         }
+        int wrong = 0;
         for (int unit = 0; unit < made.units.length; unit++) {
             for (int r = 0; r < made.registers; r++) {
-                int got = vm.type(0, unit, r);
-                if (got != model.type(0, unit, r)) {
-                    CHECKS.same(what + ": type " + unit + " " + r, got, model.type(0, unit, r));
-                }
+                wrong += vm.type(0, unit, r) == model.type(0, unit, r) ? 0 : 1;
             }
         }
-        CHECKS.same(what, 0, 0);
+        CHECKS.same(what + ": types that aren't as Model tells", wrong, 0);
     }
 
     /** Each operation with each A and B; behind it stand other units. */

@@ -234,6 +234,13 @@ public final class RefusedCallsTest {
 
     /** "the file before stays, and the machine; without bytes: at 0". */
     private static void loadOfAnIllFile(int scene) {
+        for (int seals = 0; seals < 2; seals++) {
+            PairVm vm = scene(scene);
+            vm.put(0);
+            String before = Seen.rest(vm);
+            CHECKS.thrown("an ill one", ILL, seals == 1 ? vm::seal : vm::load);
+            sameText("all stays, in scene " + scene, Seen.rest(vm), before);
+        }
         int[] wrongCheck = fit().toFile();
         wrongCheck[7] ^= 1;
         int[][] files = {{}, {99}, {100, 101, 120, 10, 0, 0, 0, 0}, wrongCheck};

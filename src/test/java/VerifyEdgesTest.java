@@ -404,40 +404,40 @@ public final class VerifyEdgesTest {
         row("by a branch to itself", vm, 0, "1");
     }
 
-    /** "This is gone on with until nothing changes": the last of ten is lost by ten rounds. */
+    /** "This is gone on with until nothing changes": however many rounds that takes. */
     private static void untilNothingChanges() {
-        int[] chain = new int[20];
-        for (int r = 0; r < 9; r++) {
-            chain[r] = Code.ab(1, r, r + 1);
+        oneRegisterIsLostEachRound();
+        for (int length = 2; length <= 39; length++) {
+            chainOfWaysBack(length);
         }
-        int[] all = new int[31];
+    }
+
+    /** Register 9 becomes a FLOAT at the end, so that in each round the next one loses its type. */
+    private static void oneRegisterIsLostEachRound() {
+        int[] all = nothings(31, 14);
         for (int r = 0; r < 9; r++) {
             all[r] = Code.ab(18, r, 0);
+            all[9 + r] = Code.ab(1, r, r + 1);
         }
-        System.arraycopy(chain, 0, all, 9, 9);
         all[18] = Code.ab(130, 9, 0);
         all[19] = Code.aa(56, 0);
         all[20] = -10 & 0xffff;
-        for (int i = 21; i < 30; i++) {
-            all[i] = 0;
-        }
-        all[30] = 14;
         PairVm vm = Code.one(0, Code.types(1), 10, all).machine();
-        row("all are lost but none", vm, 9, "0000000000");
+        row("all are lost", vm, 9, "0000000000");
         row("ahead of it none is", vm, 8, "1111111101");
         CHECKS.same("the first that is wrong", vm.verify(0), 9);
-        for (int length = 2; length <= 39; length++) {
-            int[] back = new int[length + 1];
-            for (int i = 1; i < length; i++) {
-                back[i] = Code.aa(40, -1);
-            }
-            back[0] = Code.aa(40, length - 1);
-            back[1] = length == 2 ? 40 : 14;
-            back[length] = 14;
-            vm = Code.one(0, Code.types(1), 1, back).machine();
-            row("a chain of " + length + " ways back", vm, 1, "1");
-            CHECKS.same("is fit", vm.verify(0), GOOD);
-        }
+    }
+
+    /** From unit 0 to the last of them, and from each to the one before. */
+    private static void chainOfWaysBack(int length) {
+        int[] back = new int[length + 1];
+        Arrays.fill(back, Code.aa(40, -1));
+        back[0] = Code.aa(40, length - 1);
+        back[1] = length == 2 ? 40 : 14;
+        back[length] = 14;
+        PairVm vm = Code.one(0, Code.types(1), 1, back).machine();
+        row("a chain of " + length + " ways back", vm, 1, "1");
+        CHECKS.same("is fit", vm.verify(0), GOOD);
     }
 
     private static void onlyWaysThatMayBeGone() {
